@@ -849,7 +849,10 @@ public final class LeafMint {
             for (int amount = 0; amount <= MAX_AMOUNT; amount++) {
                 int fewest = UNPAYABLE;
                 for (int taken = 0; taken <= count && taken * value <= amount; taken++) {
-                    fewest = Math.min(fewest, without[amount - taken * value] + taken);
+                    int number = without[amount - taken * value] + taken;
+                    if (number < fewest) {
+                        fewest = number;
+                    }
                 }
                 with[amount] = fewest;
             }

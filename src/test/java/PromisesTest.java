@@ -528,6 +528,15 @@ public final class PromisesTest {
         CHECK.equal("27: all 40", many.fewestCoinsBySets(52), 40);
         CHECK.fails("26: one more", ELEMENT, () -> many.fewestCoins(53));
         CHECK.fails("27: one more", ELEMENT, () -> many.fewestCoinsBySets(53));
+
+        LeafMint rich = mintWithDies(50, 1);
+        rich.strike(0, 2);
+        rich.addDie(30, 1);
+        rich.strike(1, 1);
+        CHECK.equal("27: 80", rich.fewestCoinsBySets(80), 2);
+        rich.pay(30);
+        CHECK.fails("27: nothing stays of the sets", ELEMENT, () -> rich.fewestCoinsBySets(80));
+        CHECK.fails("26: nothing stays of the table", ELEMENT, () -> rich.fewestCoins(80));
     }
 
     private static void promise28GreedyCoins() {
@@ -686,6 +695,10 @@ public final class PromisesTest {
         mint.pay(50);
         CHECK.equal("41: length", mint.renderVault(), 8);
         CHECK.equal("41: text", outputOf(mint, 8), "5x11 1x3");
+        mint.pay(2);
+        mint.pay(55);
+        CHECK.equal("41: length", mint.renderVault(), 3);
+        CHECK.equal("41: one coin", outputOf(mint, 3), "1x1");
     }
 
     private static void promise42OutputAt() {
@@ -791,6 +804,13 @@ public final class PromisesTest {
     }
 
     private static void promise45ErrorPositionKept() {
+        LeafMint longer = new LeafMint();
+        run(longer, "die 12 3;year 15;year;year");
+        for (String shorter : new String[] {"die 12 ", "die 12", "die 1", "di", "die 12 3;", "die 12 3;year 15;ye"}) {
+            CHECK.fails("45: \"" + shorter + "\" after a longer script", ARGUMENT, () -> run(longer, shorter));
+            CHECK.equal("45: \"" + shorter + "\" after a longer script", longer.errorPosition(), shorter.length());
+        }
+
         LeafMint mint = new LeafMint();
         CHECK.fails("45: first", ARGUMENT, () -> run(mint, "year 5x"));
         CHECK.equal("45: first", mint.errorPosition(), 6);
