@@ -21,11 +21,17 @@ public final class FaceTest {
         "toString", "String.format", ".stream", "volatile", "transient", "native "
     };
 
+    private static final String CONSTANT_TYPES = "int|long|boolean|char|java.lang.String|(int|long|char|byte)\\[\\]";
+    private static final String FIELD_TYPES = "(int|long|boolean|char|java.lang.String(Builder)?|LeafMint\\$\\w+)"
+            + "(\\[\\])?|(int|long)\\[\\]\\[\\]";
+
     public static void main(String[] args) throws IOException {
         faceIsThatOfTheDocument();
         nothingElseIsVisible();
         noPrivateMethodHasAPublicName();
         sourceKeepsToTheLanguage();
+        fieldsKeepToTheLanguage();
+        sizesKeepToTheLanguage();
         CHECK.end("FaceTest");
     }
 
@@ -97,6 +103,12 @@ public final class FaceTest {
         }
     }
 
+    private static List<Class<?>> allClasses() {
+        List<Class<?>> classes = new ArrayList<>(List.of(LeafMint.class.getDeclaredClasses()));
+        classes.add(LeafMint.class);
+        return classes;
+    }
+
     private static void noPrivateMethodHasAPublicName() {
         List<String> names = new ArrayList<>();
         for (Method method : LeafMint.class.getDeclaredMethods()) {
@@ -104,9 +116,7 @@ public final class FaceTest {
                 names.add(method.getName());
             }
         }
-        List<Class<?>> classes = new ArrayList<>(List.of(LeafMint.class.getDeclaredClasses()));
-        classes.add(LeafMint.class);
-        for (Class<?> inside : classes) {
+        for (Class<?> inside : allClasses()) {
             for (Method method : inside.getDeclaredMethods()) {
                 if (!Modifier.isPublic(method.getModifiers())) {
                     CHECK.holds("own name: " + method, !names.contains(method.getName()));
@@ -124,6 +134,33 @@ public final class FaceTest {
             char sign = source.charAt(i);
             if (sign > 126 || sign < 32 && sign != '\n') {
                 CHECK.holds("plain sign at " + i, false);
+            }
+        }
+    }
+
+    private static void fieldsKeepToTheLanguage() {
+        for (Class<?> inside : allClasses()) {
+            for (Field field : inside.getDeclaredFields()) {
+                String type = field.getType().getTypeName();
+                boolean isStatic = Modifier.isStatic(field.getModifiers());
+                String allowed = isStatic ? CONSTANT_TYPES : FIELD_TYPES;
+                CHECK.holds("a type of rules 3 and 5: " + field, type.matches(allowed));
+                CHECK.holds("final: " + field, !isStatic || Modifier.isFinal(field.getModifiers()));
+            }
+        }
+    }
+
+    /** Rule 11; the length of a method is left to the reader. */
+    private static void sizesKeepToTheLanguage() {
+        CHECK.holds("12 classes", allClasses().size() <= 12);
+        for (Class<?> inside : allClasses()) {
+            int fields = 0;
+            for (Field field : inside.getDeclaredFields()) {
+                fields += Modifier.isStatic(field.getModifiers()) ? 0 : 1;
+            }
+            CHECK.holds("20 fields in " + inside, fields <= 20);
+            for (Method method : inside.getDeclaredMethods()) {
+                CHECK.holds("seven parameters of " + method, method.getParameterCount() <= 7);
             }
         }
     }

@@ -19,9 +19,12 @@ final class UndoBoundaries {
         promise49Restore(document);
     }
 
-    /** Each change below can be made to it; nothing can be undone. */
+    /** Coins of two dies, years and grades, of which a recall loses some weight; nothing can be undone. */
     private static LeafMint ready() {
-        return Mints.settled(DieBoundaries.usedDies(2));
+        LeafMint mint = DieBoundaries.usedDies(2);
+        mint.passYears(5);
+        mint.strike(0, 2);
+        return Mints.settled(mint);
     }
 
     private static Map<String, Consumer<LeafMint>> everyChange() {
@@ -88,7 +91,7 @@ final class UndoBoundaries {
         return calls;
     }
 
-    /** A call of each method that can refuse one, which it does on a mint with the dies 10 and 11 in year 0. */
+    /** A call of each method that can refuse one, which it does on the mint above. */
     private static Map<String, Consumer<LeafMint>> everyRefusal() {
         Map<String, Consumer<LeafMint>> calls = new LinkedHashMap<>();
         calls.put("addDie", mint -> mint.addDie(11, 2));
@@ -232,13 +235,13 @@ final class UndoBoundaries {
                 + " otherwise",
                 check -> {
             everyRefusal().forEach((name, call) -> {
-                LeafMint mint = Mints.busy(DieBoundaries.usedDies(2));
+                LeafMint mint = Mints.busy(ready());
                 check.equal(name + " is refused", Mints.answerOf(() -> {
                     call.accept(mint);
                     return "answered";
                 }).endsWith("Exception") ? 1 : 0, 1);
                 check.equal(name + " changes nothing", Mints.everythingOf(mint),
-                        Mints.everythingOf(Mints.busy(DieBoundaries.usedDies(2))));
+                        Mints.everythingOf(Mints.busy(ready())));
             });
             check.refused("meanWear", Thrown.ARITHMETIC, LeafMint::new, mint -> mint.meanWear());
             check.refusedAsMade("errorPosition", Thrown.ELEMENT, () -> Mints.worn(1), LeafMint::errorPosition);
@@ -361,7 +364,7 @@ final class UndoBoundaries {
                 }
                 check.fails("all of " + made, Thrown.STATE, mint::undo);
                 check.fails("again", Thrown.STATE, mint::undo);
-                check.equal("a ninth stays", mint.year(), Math.max(made - 8, 0));
+                check.equal("a ninth stays", mint.year(), ready().year() + Math.max(made - 8, 0));
             }
         });
     }
