@@ -6,6 +6,7 @@ public final class BoundariesTest {
     public static void main(String[] args) throws IOException {
         Check check = new Check();
         Sentences document = new Sentences(Path.of("..", "shared", "DOC.md"), check);
+        OverviewBoundaries.addTo(document);
         DieBoundaries.addTo(document);
         YearBoundaries.addTo(document);
         PaymentBoundaries.addTo(document);

@@ -9,13 +9,15 @@ import java.util.function.Consumer;
 import java.util.regex.Matcher;
 import java.util.regex.Pattern;
 
-/** The sentences of the document from its terms to its last promise, and whether each has a test of its own. */
+/** The sentences of the document from its first line to its last promise, and whether each has a test of its own. */
 final class Sentences {
-    /** What stands above the first title under the terms; it promises nothing. */
-    private static final String INTRODUCTION = "Terms";
-    private static final Pattern HEAD = Pattern.compile("(?s)(?:## Promise (\\d+).*|<h2>(.*?)</h2>\\s*(.*))");
+    /** The face stands in a block of code, which FaceTest compares with the class. */
+    private static final Pattern FACE = Pattern.compile("(?s)## The public face\n.*?(?=## Terms\n)");
+    private static final Pattern LESSER_TITLE = Pattern.compile("<h2>(.*?)</h2>\n");
+    private static final Pattern TITLE = Pattern.compile("#+ (?:Promise (\\d+).*|(.*))");
     private static final Pattern SIGNATURE = Pattern.compile("^`.*?\\(.*?`: ");
     private static final Pattern NAMES_A_BOUNDARY = Pattern.compile("\\b(?:any number|counted from|0)\\b");
+    private static final Set<String> PROMISE_NOTHING = Set.of("It is not thread-safe");
 
     private final Check check;
     private final Map<String, Set<String>> sentences = new LinkedHashMap<>();
@@ -24,20 +26,16 @@ final class Sentences {
 
     Sentences(Path document, Check check) throws IOException {
         this.check = check;
-        String text = Files.readString(document);
-        String section = INTRODUCTION;
-        for (String block : text.substring(text.indexOf("## Terms")).split("\n(?=## |<h2>|- |\n)")) {
-            if (block.startsWith("## Not promised")) {
-                break;
-            }
-            Matcher head = HEAD.matcher(block.strip());
-            String body = block;
-            if (head.matches()) {
-                section = head.group(1) == null ? head.group(2) : head.group(1);
-                body = head.group(1) == null ? head.group(3) : "";
-            }
-            if (!section.equals(INTRODUCTION)) {
-                split(section, body.strip().replaceAll("\\s+", " "));
+        String text = FACE.matcher(Files.readString(document)).replaceFirst("");
+        text = LESSER_TITLE.matcher(text).replaceAll("## $1\n\n");
+        String section = "";
+        for (String block : text.substring(0, text.indexOf("## Not promised")).split("\n(?=#+ |- |\n)")) {
+            String paragraph = block.strip().replaceAll("\\s+", " ");
+            Matcher title = TITLE.matcher(paragraph);
+            if (title.matches()) {
+                section = title.group(1) == null ? title.group(2) : title.group(1);
+            } else {
+                split(section, paragraph);
             }
         }
     }
@@ -49,7 +47,7 @@ final class Sentences {
             if (!bare.isEmpty()) {
                 put(sentences, section, bare);
             }
-            if (!bare.isEmpty() && isDue) {
+            if (!bare.isEmpty() && isDue && !PROMISE_NOTHING.contains(bare)) {
                 put(due, section, bare);
             }
         }
